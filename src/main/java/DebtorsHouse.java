@@ -123,8 +123,8 @@ public final class DebtorsHouse {
             return NONE;
         }
         now.putAtHand(rings.row, found);
-        int least = Integer.MAX_VALUE;
-        for (int i = 0; i < now.rowLength; i++) {
+        int least = now.debts.due(now.row[0], now.day);
+        for (int i = 1; i < now.rowLength; i++) {
             least = Math.min(least, now.debts.due(now.row[i], now.day));
         }
         for (int i = 0; i < now.rowLength; i++) {
@@ -1689,11 +1689,12 @@ public final class DebtorsHouse {
         }
 
         private long leastPurse(int set) {
-            long best = Long.MAX_VALUE;
+            long best = NONE;
             for (int last = 0; last < size; last++) {
                 if ((set >> last & 1) != 0) {
                     int ahead = set & ~(1 << last);
-                    best = Math.min(best, purseOf[ahead] + needAfter(last, ahead));
+                    long all = purseOf[ahead] + needAfter(last, ahead);
+                    best = best == NONE ? all : Math.min(best, all);
                 }
             }
             return best;
