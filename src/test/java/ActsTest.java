@@ -87,6 +87,9 @@ public final class ActsTest {
         faultIs("held if:yes;", 1, 7);
         faultIs("give:1;", 1, 0);
         faultIs("helds:1;", 1, 0);
+        faultIs("heldz:1;", 1, 0);
+        faultIs("heldaz:1;", 1, 0);
+        faultIs("held if sum>99999:1;held if sum>9:z;", 1, 34);
         faultIs(" \n  Held:1;", 1, 4);
         faultIs("held if not not sum>1:no;", 1, 12);
         faultIs("held if sum 1:no;", 1, 12);
@@ -250,6 +253,14 @@ public final class ActsTest {
         x.day();
         check.due("15: days held", x.tells(0, 3, -1), 2);
         check.due("15: days not held", x.tells(1, 3, -1), 4);
+        DebtorsHouse y = Check.persons(0, 0);
+        Check.act(y, "entry if days=0:1;entry if days=3:2;", 0);
+        y.debt(0, 1, 1, 0, 0, 0);
+        Check.days(y, 2);
+        y.hold(1, 0);
+        check.due("15: days from then on", y.tells(0, 1, -1), 1);
+        Check.days(y, 3);
+        check.due("15: three days held", y.tells(0, 1, -1), 2);
     }
 
     private static void tellsNow() {

@@ -13,6 +13,7 @@ public final class DebtsTest {
         about();
         ring();
         leastRing();
+        longestRing();
         net();
         check.finish();
     }
@@ -116,6 +117,10 @@ public final class DebtsTest {
         check.due("5: paid", x.about(1, 7), 1);
         check.due("5: ended", x.about(1, 14), 0);
         check.due("5: not live", x.pay(1, 1), -1);
+        DebtorsHouse y = Check.persons(40, 0);
+        y.debt(0, 1, 50, 0, 0, 0);
+        check.due("5: one more than it has", y.pay(0, 41), -1);
+        check.due("5: all that it has", y.pay(0, 40), 10);
     }
 
     private static void interest() {
@@ -212,6 +217,21 @@ public final class DebtsTest {
         check.due("8: least row 0", x.row(0), 1);
         check.due("8: least row 1", x.row(1), 4);
         check.due("8: least row 2", x.row(2), 2);
+    }
+
+    private static void longestRing() {
+        DebtorsHouse x = Check.persons(0, 0, 0, 0, 0, 0, 0, 0, 0, 0, 0, 0);
+        for (int i = 0; i < 12; i++) {
+            check.due("7: not closed yet", x.ring(), -1);
+            x.debt((i * 5 + 5) % 12, i * 5 % 12, 5 + i, 0, 0, 0);
+        }
+        check.due("7: of all persons", x.ring(), 12);
+        check.due("8: the first", x.row(0), 0);
+        for (int k = 1; k < 12; k++) {
+            check.due("8: backwards", x.row(k), 12 - k);
+        }
+        check.due("9: the least due", x.net(), 5);
+        check.due("9: broken", x.ring(), -1);
     }
 
     private static void net() {

@@ -52,6 +52,13 @@ public final class EstatesTest {
         check.due("33: it keeps them", y.tell(0, 0), 66);
         check.due("33: paid whole", y.about(0, 7), 1);
         check.due("33: surrendered all the same", y.tell(0, 13), 1);
+        DebtorsHouse z = Check.persons(100, 0);
+        for (int rank = 3; rank >= 0; rank--) {
+            z.debt(0, 1, 30, rank, 0, 0);
+        }
+        check.due("33: every rank", z.surrender(0), 100);
+        check.due("33: rank 3 lacks", z.about(0, 13), 20);
+        check.due("33: rank 2 has all", z.about(1, 13), 0);
     }
 
     private static void pennies() {
@@ -188,6 +195,8 @@ public final class EstatesTest {
         check.due("36: another what", x.free(5, 3), -1);
         check.due("36: what below", x.free(5, -1), -1);
         check.due("36: none", x.free(9, 0), 0);
+        check.due("36: the set of none", x.free(9, 1), 0);
+        check.due("36: the purse for none", x.free(9, 2), 0);
         check.due("36: one", x.free(10, 0), 1);
         check.due("36: who", x.free(10, 1), 2);
         check.due("36: by how much", x.free(36, 2), 10);

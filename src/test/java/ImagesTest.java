@@ -6,6 +6,7 @@ public final class ImagesTest {
         count();
         image();
         allIsInAnImage();
+        otherHouseInTheSamePlaces();
         placesAreNew();
         check.finish();
     }
@@ -124,6 +125,65 @@ public final class ImagesTest {
             all = all * 31 + x.row(d);
         }
         return (all * 31 + x.fault(0)) * 31 + x.fault(1);
+    }
+
+    /** Two houses that differ in all that is told, one after the other in one object. */
+    private static void otherHouseInTheSamePlaces() {
+        DebtorsHouse x = new DebtorsHouse();
+        x.image(0);
+        build(x, 1);
+        x.image(1);
+        long one = allOf(x);
+        x.again(0);
+        build(x, 2);
+        x.image(2);
+        long other = allOf(x);
+        x.again(1);
+        check.due("39: the one house", allOf(x), one);
+        goOn(x, 1);
+        x.again(2);
+        check.due("39: the other house", allOf(x), other);
+        goOn(x, 2);
+        x.again(0);
+        check.due("39: the empty house", x.count(0) + x.count(1) + x.count(3) + x.count(4) + x.count(9), 0);
+    }
+
+    private static void build(DebtorsHouse x, int n) {
+        for (int p = 0; p < 4; p++) {
+            x.person(1000 * n + p, 3 * n + p % 2);
+        }
+        Check.act(x, n == 1 ? "walk if hour<3:1;entry:3;" : "walk if hour<2:1;entry:5;daily:1;keep:5;", 0);
+        Check.days(x, 5 * n);
+        x.debt(n - 1, n, 3600 * n, n, 100 * n, 2 * n);
+        x.debt(n, n - 1, 50 + n, n + 1, 10 * n, n);
+        x.debt(3, n, 5000 * n, 0, 100 * n, 0);
+        x.hold(n, 3);
+        x.hold(n, n - 1);
+        x.room(3, n);
+        x.pay(2, 100);
+        Check.days(x, n);
+        x.walk(3, true);
+        Check.hours(x, 3 + 2 * n);
+        x.book(n, -10 * n);
+        x.book(n, 5 * n);
+        x.ring();
+        x.day();
+        x.surrender(3);
+        x.hold(n, n - 1);
+        Check.feedText(x, 0, n == 1 ? "held:no;" : "entry:77;");
+        x.least(n, n - 1, 100 * n);
+    }
+
+    private static void goOn(DebtorsHouse x, int n) {
+        check.due("39: lacks can be parted", x.found(3, 10), 10);
+        check.due("39: interest goes on", x.pay(0, 1) + 1, n == 1 ? 3600 + 5 : 7200 + 36);
+        check.due("39: the book goes on", x.book(n, -20 * n), 25 * n);
+        check.due("39: the tape", x.act(0), 1);
+        check.due("39: what it tells", x.tells(0, n - 1, 1), n == 1 ? 0 : 77);
+        check.due("39: least", x.offer(n - 1), 100 * n);
+        check.due("39: not of the other", x.offer(2 - n), n == 1 ? 1000 : -1);
+        check.due("39: lawful since", x.lawful(n - 1, 2 * n, 5 * n), true);
+        check.due("39: not lawful before", x.lawful(n - 1, 2 * n - 1, 5 * n), false);
     }
 
     private static void placesAreNew() {

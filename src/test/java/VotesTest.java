@@ -129,6 +129,14 @@ public final class VotesTest {
         check.due("30: none such", x.compose(3, 500), -1);
         check.due("30: not so many coins", x.compose(0, 600), -1);
         check.due("30: nothing was done", x.count(2), 3);
+        DebtorsHouse y = Check.persons(50, 0);
+        y.debt(0, 1, 50, 0, 0, 0);
+        y.least(1, 0, 0);
+        check.due("30: below 0", y.compose(0, -1), -1);
+        check.due("30: with its last coin", y.compose(0, 1000), 50);
+        DebtorsHouse z = Check.persons(500, 0);
+        z.debt(0, 1, 50, 0, 0, 0);
+        check.due("30: above, with coins enough", z.compose(0, 1001), -1);
         x.hold(1, 0);
         x.day();
         check.due("30: paid", x.compose(0, 500), 59);
