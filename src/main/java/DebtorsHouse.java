@@ -20,8 +20,9 @@ public final class DebtorsHouse {
     private static final int MOST_FREED = 8;
 
     private static final int MOST_COINS = 1000000;
-    private static final int MOST_PRICE = 100000;
+    private static final int MOST_SUM = 100000;
     private static final int MOST_COSTS = 10000;
+    private static final int MOST_ALMS = 10000;
     private static final int MOST_RATE = 200;
     private static final int MOST_CHILDREN = 9;
     private static final int LAST_RANK = 3;
@@ -70,7 +71,7 @@ public final class DebtorsHouse {
         if (now.debts.size >= MOST_DEBTS || !areTwo(debtor, creditor)) {
             return NONE;
         }
-        if (outside(sum, 1, MOST_PRICE) || outside(rank, 0, LAST_RANK)
+        if (outside(sum, 1, MOST_SUM) || outside(rank, 0, LAST_RANK)
                 || outside(rate, 0, MOST_RATE) || outside(since, 0, now.day)) {
             return NONE;
         }
@@ -118,11 +119,11 @@ public final class DebtorsHouse {
     }
 
     public int net() {
-        int found = rings.find(now.debts, rings.row);
-        if (found == 0) {
+        int length = rings.find(now.debts, now.row);
+        if (length == 0) {
             return NONE;
         }
-        now.putAtHand(rings.row, found);
+        now.rowLength = length;
         int least = now.debts.due(now.row[0], now.day);
         for (int i = 1; i < now.rowLength; i++) {
             least = Math.min(least, now.debts.due(now.row[i], now.day));
@@ -304,7 +305,7 @@ public final class DebtorsHouse {
 
     public int alms(int coins) {
         int person = now.people.turnToday();
-        if (person == NONE || outside(coins, 1, MOST_COSTS)) {
+        if (person == NONE || outside(coins, 1, MOST_ALMS)) {
             return NONE;
         }
         now.people.coins[person] += coins;
@@ -371,7 +372,7 @@ public final class DebtorsHouse {
     }
 
     public boolean buy(int debt, int buyer, int price) {
-        if (!now.debts.isLive(debt) || !now.people.has(buyer) || outside(price, 0, MOST_PRICE)) {
+        if (!now.debts.isLive(debt) || !now.people.has(buyer) || outside(price, 0, MOST_SUM)) {
             return false;
         }
         int seller = now.debts.creditor[debt];
@@ -442,7 +443,7 @@ public final class DebtorsHouse {
 
     public int book(int person, int coins) {
         if (!now.people.has(person) || now.bookRows >= MOST_BOOK_ROWS
-                || coins == 0 || outside(coins, -MOST_PRICE, MOST_PRICE)) {
+                || coins == 0 || outside(coins, -MOST_SUM, MOST_SUM)) {
             return NONE;
         }
         now.bookRows++;
@@ -867,11 +868,6 @@ public final class DebtorsHouse {
             }
         }
 
-        void putAtHand(int[] debtsInRow, int length) {
-            copyNumbers(debtsInRow, row);
-            rowLength = Math.min(length, row.length);
-        }
-
         int goodAct(int d, int k) {
             for (int a = Math.min(actCount, MOST_ACTS) - 1; a >= 0; a--) {
                 Act act = acts[a];
@@ -1066,7 +1062,7 @@ public final class DebtorsHouse {
         }
 
         private void readTest(int test) {
-            boolean negated = isWord("not");
+            boolean negated = wordIn("not") == 0;
             if (negated) {
                 step();
             }
@@ -1327,11 +1323,10 @@ public final class DebtorsHouse {
     private static final class Rings {
         private static final int FAR = 1000;
 
-        final int[] row = new int[MOST_PERSONS];
         /** By two PERSONS: how many LIVE DEBTS lead from the first, who owes, to the second at least. */
         private final int[] steps = new int[MOST_PERSONS * MOST_PERSONS];
 
-        /** Writes THE RING into a row: how many DEBTS it has, 0 if there is none. */
+        /** Writes THE RING into a row: how many DEBTS it has. If there is none, 0, and nothing is written. */
         int find(Debts debts, int[] into) {
             measure(debts);
             int length = FAR;
