@@ -119,11 +119,9 @@ public final class DebtorsHouse {
     }
 
     public int net() {
-        int length = rings.find(now.debts, now.row);
-        if (length == 0) {
+        if (ring() == NONE) {
             return NONE;
         }
-        now.rowLength = length;
         int least = now.debts.due(now.row[0], now.day);
         for (int i = 1; i < now.rowLength; i++) {
             least = Math.min(least, now.debts.due(now.row[i], now.day));
@@ -158,11 +156,13 @@ public final class DebtorsHouse {
     public int act(int from) {
         now.fault = 0;
         now.faultPlace = NONE;
+        int length = now.tapeLength;
+        // The tape is taken even where no text is read from it.
+        now.tapeLength = 0;
         if (now.actCount >= MOST_ACTS || outside(from, 0, LAST_DAY)) {
             return NOT_READ;
         }
-        reader.read(now.tape, now.tapeLength);
-        now.tapeLength = 0;
+        reader.read(now.tape, length);
         now.fault = reader.fault;
         now.faultPlace = reader.faultPlace;
         if (now.fault != 0) {
@@ -324,7 +324,7 @@ public final class DebtorsHouse {
     }
 
     public boolean least(int creditor, int debtor, int thousandths) {
-        if (!now.people.has(creditor) || !now.people.has(debtor) || outside(thousandths, 0, WHOLE)) {
+        if (!areTwo(creditor, debtor) || outside(thousandths, 0, WHOLE)) {
             return false;
         }
         now.setLeast(creditor, debtor, thousandths);

@@ -45,9 +45,11 @@ public final class ActsTest {
         DebtorsHouse x = Check.persons(0);
         check.due("12: empty text", x.act(0), 0);
         check.due("12: another day", Check.act(x, "held:no;", -1), -2);
-        check.due("12: no text is read", x.end(8), 8);
-        check.due("12: day above", x.act(10000), -2);
-        check.due("12: last day", x.act(9999), 1);
+        check.due("12: the tape is taken by another day", x.end(1), -1);
+        check.due("12: day above", Check.act(x, "held", 10000), -2);
+        check.due("12: no text is read", x.fault(0), 0);
+        check.due("12: the tape is taken by a day above", x.feed(0, 0, 0, 0, 0), 20);
+        check.due("12: last day", Check.act(x, "held:no;", 9999), 1);
         check.due("12: the tape is empty then", x.end(1), -1);
         check.due("12: a fault", Check.act(x, "held", 0), -1);
         check.due("12: the tape is empty then, too", x.end(1), -1);
@@ -58,6 +60,7 @@ public final class ActsTest {
         check.due("12: there are 4", Check.act(x, "held", 0), -2);
         check.due("12: fault 0 then", x.fault(0), 0);
         check.due("12: place NONE then", x.fault(1), -1);
+        check.due("12: the tape is taken where there are 4", x.end(1), -1);
         check.due("12: count", x.count(3), 4);
     }
 

@@ -257,5 +257,7 @@ public final class DebtsTest {
         check.due("9: detained no more", x.tell(1, 10), 0);
         check.due("9: but held", x.tell(1, 2), 1);
         check.due("9: none any more", x.net(), -1);
+        check.due("9: at hand is none then", x.row(0), -1);
+        check.due("9: nor is there a row", x.count(7), 0);
     }
 }

@@ -196,8 +196,8 @@ final class Model {
 
     int net() {
         List<Integer> ring = theRing();
-        if (ring.isEmpty()) return NONE;
         s.row = ring;
+        if (ring.isEmpty()) return NONE;
         List<Integer> dues = new ArrayList<>();
         for (int d : ring) dues.add(due(s.debts.get(d)));
         int least = Collections.min(dues);
@@ -221,10 +221,10 @@ final class Model {
     int act(int from) {
         s.fault = 0;
         s.place = NONE;
-        if (s.acts.size() == 4 || from < 0 || from > 9999) return -2;
         StringBuilder text = new StringBuilder();
         for (int b : s.tape) text.append((char) b);
         s.tape = new ArrayList<>();
+        if (s.acts.size() == 4 || from < 0 || from > 9999) return -2;
         List<Line> lines = parse(text.toString());
         if (s.fault != 0) return NONE;
         s.acts.add(new Act(from, s.day, lines));
@@ -483,7 +483,7 @@ final class Model {
     }
 
     boolean least(int creditor, int debtor, int thousandths) {
-        if (!isP(creditor) || !isP(debtor) || thousandths < 0 || thousandths > 1000) return false;
+        if (!isP(creditor) || !isP(debtor) || creditor == debtor || thousandths < 0 || thousandths > 1000) return false;
         s.persons.get(creditor).least.put(debtor, thousandths);
         return true;
     }

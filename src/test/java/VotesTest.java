@@ -22,6 +22,7 @@ public final class VotesTest {
         DebtorsHouse x = Check.persons(0, 0);
         check.due("27: no creditor", x.least(2, 0, 5), false);
         check.due("27: no debtor", x.least(0, -1, 5), false);
+        check.due("27: one for itself", x.least(0, 0, 5), false);
         check.due("27: above", x.least(1, 0, 1001), false);
         check.due("27: below", x.least(1, 0, -1), false);
         check.due("27: without a debt", x.least(1, 0, 0), true);
