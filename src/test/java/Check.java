@@ -1,18 +1,40 @@
-/** What the tests share: rows of "due", and texts put on the tape. */
+/** What the tests share: rows of "due" under sentences of the document, and texts put on the tape. */
 final class Check {
+    static final int LOW = Integer.MIN_VALUE;
+    static final int HIGH = Integer.MAX_VALUE;
+
     private int rows = 0;
     private int wrong = 0;
+    private String sentence = "";
+
+    /** The rows from here on are those of a sentence, which must stand in the document word for word. */
+    void says(String where, String words) {
+        sentence = where + ", '" + words + "': ";
+        due("this stands in the document", Doc.quote(where, words), true);
+    }
 
     void due(String call, long got, long want) {
         rows++;
         if (got != want) {
             wrong++;
-            System.out.println(call + " answered " + got + ", due is " + want);
+            System.out.println(sentence + call + " answered " + got + ", due is " + want);
         }
     }
 
     void due(String call, boolean got, boolean want) {
         due(call, got ? 1 : 0, want ? 1 : 0);
+    }
+
+    /** Compares two texts by lines, and shows the first line that differs. */
+    void same(String call, String got, String want) {
+        String[] lines = got.split("\n");
+        String[] due = want.split("\n");
+        int differ = lines.length == due.length ? -1 : Math.min(lines.length, due.length);
+        for (int i = Math.min(lines.length, due.length) - 1; i >= 0; i--) {
+            differ = lines[i].equals(due[i]) ? differ : i;
+        }
+        boolean shown = differ >= 0 && differ < Math.min(lines.length, due.length);
+        due(call + (shown ? ", then " + lines[differ] + " for " + due[differ] : ""), differ < 0, true);
     }
 
     /** Call this last in main: ends with 1 if a row was not as due. */
@@ -23,7 +45,7 @@ final class Check {
         }
     }
 
-    /** Puts a text, of signs 0 to 255, behind what is on the tape; how many bytes it had ahead. */
+    /** Puts a text, of signs 0 to 255, behind what is on the tape; how many bytes it has then. */
     static int feedText(DebtorsHouse x, int ahead, String text) {
         for (int i = 0; i < text.length(); i += 20) {
             x.feed(four(text, i), four(text, i + 4), four(text, i + 8), four(text, i + 12), four(text, i + 16));

@@ -1,9 +1,14 @@
+import java.util.ArrayList;
+import java.util.Collections;
+import java.util.List;
 import java.util.Random;
 
-/** Long runs of chance calls, the same each time, on the class and on Model: every answer and all that is told. */
+/** Runs of 512 chance calls, the same each time, on the class and on Model: every answer is compared. */
 public final class ModelTest {
-    private static final int RUNS = 600;
-    private static final int CALLS = 220;
+    private static final int RUNS = 3000;
+    private static final int LAST_CALL = 512;
+    /** Behind this call the house is only looked at. */
+    private static final int LAST_DEED = 400;
 
     private static final Check check = new Check();
 
@@ -12,6 +17,7 @@ public final class ModelTest {
     private final Model m = new Model();
     private final boolean wild;
     private final int seed;
+    private int calls = 0;
 
     private ModelTest(int seed) {
         this.seed = seed;
@@ -37,10 +43,12 @@ public final class ModelTest {
             int children = dice.nextInt(10);
             due("person", x.person(coins, children), m.person(coins, children));
         }
-        for (int i = 0; i < CALLS; i++) {
+        while (calls < LAST_DEED) {
             oneCall();
-            compareAll();
+            look();
+            look();
         }
+        lookUpToTheLastCall();
     }
 
     /** Few debts among many persons, so that rings are long, and several of a length. */
@@ -55,12 +63,13 @@ public final class ModelTest {
             due("debt", x.debt(a, b, sum, 0, rate, 0), m.debt(a, b, sum, 0, rate, 0));
         }
         due("day", x.day(), m.day());
-        for (int i = 0; i < 10; i++) {
+        for (int i = 0; i < 8; i++) {
             due("ring", x.ring(), m.ring());
-            compareAll();
+            rows();
             due("net", x.net(), m.net());
-            compareAll();
+            rows();
         }
+        lookUpToTheLastCall();
     }
 
     /** One debtor with many creditors, a friend, and acts that change who counts. */
@@ -89,15 +98,17 @@ public final class ModelTest {
             due("offer", x.offer(0), m.offer(0));
             takeText("number:" + dice.nextInt(101) + ";worth:" + dice.nextInt(101) + ";buyer:" + dice.nextInt(2) + ";", 0);
         }
-        compareAll();
+        lookUpToTheLastCall();
     }
 
+    /** One row for each call, so that no house is called more often than the document has it. */
     private void due(String call, long got, long want) {
-        check.due("seed " + seed + ": " + call, got, want);
+        calls++;
+        check.due("seed " + seed + ": call " + calls + ": " + call, got, want);
     }
 
     private void due(String call, boolean got, boolean want) {
-        check.due("seed " + seed + ": " + call, got, want);
+        due(call, got ? 1 : 0, want ? 1 : 0);
     }
 
     private int upTo(int n) {
@@ -325,31 +336,50 @@ public final class ModelTest {
         }
     }
 
-    private void compareAll() {
-        for (int what = -1; what <= 12; what++) {
-            due("count(" + what + ")", x.count(what), m.count(what));
+    private void rows() {
+        for (int k = 0; k <= m.s.row.size(); k++) {
+            lookAt(3, k, 0, 0);
         }
-        for (int p = -1; p <= m.s.persons.size(); p++) {
-            for (int what = -1; what <= 15; what++) {
-                due("tell(" + p + ", " + what + ")", x.tell(p, what), m.tell(p, what));
+    }
+
+    private void look() {
+        lookAt(dice.nextInt(6), dice.nextInt(13) - 1, dice.nextInt(17) - 1, dice.nextInt(7) - 2);
+    }
+
+    private void lookAt(int kind, int a, int b, int c) {
+        switch (kind) {
+            case 0: due("count(" + b + ")", x.count(b), m.count(b)); break;
+            case 1: due("tell(" + a + ", " + b + ")", x.tell(a, b), m.tell(a, b)); break;
+            case 2: due("about(" + a + ", " + b + ")", x.about(a, b), m.about(a, b)); break;
+            case 3: due("row(" + a + ")", x.row(a), m.row(a)); break;
+            case 4: due("fault(" + c + ")", x.fault(c), m.fault(c)); break;
+            default: due("tells(" + a + ", " + b + ", " + c + ")", x.tells(a, b, c), m.tells(a, b, c)); break;
+        }
+    }
+
+    /** In an order of chance, as many as there is room for. */
+    private void lookUpToTheLastCall() {
+        List<int[]> looks = new ArrayList<>();
+        for (int b = -1; b <= 15; b++) {
+            looks.add(new int[] {0, 0, b, 0});
+            for (int a = -1; a <= 40; a++) {
+                if (a <= m.s.persons.size()) {
+                    looks.add(new int[] {1, a, b, 0});
+                }
+                if (a <= m.s.debts.size()) {
+                    looks.add(new int[] {2, a, b, 0});
+                }
             }
         }
-        for (int d = -1; d <= m.s.debts.size(); d++) {
-            for (int what = -1; what <= 15; what++) {
-                due("about(" + d + ", " + what + ")", x.about(d, what), m.about(d, what));
-            }
+        for (int a = -1; a <= 12; a++) {
+            looks.add(new int[] {3, a, 0, 0});
+            looks.add(new int[] {4, 0, 0, a % 3});
+            looks.add(new int[] {5, a, dice.nextInt(9), dice.nextInt(5) - 1});
         }
-        for (int k = -1; k <= 12; k++) {
-            due("row(" + k + ")", x.row(k), m.row(k));
-        }
-        for (int what = -1; what <= 2; what++) {
-            due("fault(" + what + ")", x.fault(what), m.fault(what));
-        }
-        int person = person();
-        for (int topic = -1; topic <= 9; topic++) {
-            for (int act = -2; act <= 4; act++) {
-                due("tells(" + person + ", " + topic + ", " + act + ")", x.tells(person, topic, act), m.tells(person, topic, act));
-            }
+        Collections.shuffle(looks, dice);
+        for (int i = 0; i < looks.size() && calls < LAST_CALL; i++) {
+            int[] look = looks.get(i);
+            lookAt(look[0], look[1], look[2], look[3]);
         }
     }
 }
