@@ -714,6 +714,10 @@ public final class ActsTest {
         Check.act(w, "held:7;", 9);
         check.due("other than 0", w.lawful(0, 9, 4), true);
         check.due("by the one before", w.lawful(0, 8, 4), false);
+        Check.act(w, "held:1;", 12);
+        Check.act(w, "held:no;", 12);
+        check.due("by the third act, as there is no day between", w.lawful(0, 11, 4), true);
+        check.due("by the fourth act", w.lawful(0, 12, 4), false);
         check.says("Term 6", "with sum: the SUMS of such DEBTS, debts: how many, rank: the least;");
         DebtorsHouse x = new DebtorsHouse();
         x.person(30, 2);
@@ -741,5 +745,14 @@ public final class ActsTest {
         check.due("its coins", x.tell(0, 0), 10);
         x.pay(0, 1);
         check.due("coins as they are", x.lawful(0, 4, 4), false);
+        DebtorsHouse y = Check.persons(0, 0);
+        Check.act(y, "held if days=0 and room=0 and hour=0:yes;held:no;", 0);
+        y.debt(0, 1, 100, 3, 0, 0);
+        y.hold(1, 0);
+        y.room(0, 3);
+        y.day();
+        y.hour();
+        check.due("not by what it is now", y.tells(0, 0, 0), 0);
+        check.due("but with 0 for days, room and hour", y.lawful(0, 0, 0), true);
     }
 }

@@ -64,6 +64,13 @@ public final class EstatesTest {
         check.due("surrendered all the same", y.tell(0, 13), 1);
         check.due("all lacks", y.about(0, 13), 7);
         check.due("released", y.about(0, 7), 3);
+        DebtorsHouse z = Check.persons(30, 0);
+        Check.act(z, "entry:5;", 0);
+        z.debt(0, 1, 40, 0, 0, 0);
+        z.hold(1, 0);
+        check.due("fees are no debt", z.surrender(0), 30);
+        check.due("it owes them on", z.tell(0, 5), 5);
+        check.due("and can't leave", z.leave(0), false);
     }
 
     private static void surrenderRefused() {
@@ -508,6 +515,9 @@ public final class EstatesTest {
                 check.due("free(" + row[0] + ", " + what + ")", x.free(row[0], what), row[1 + what]);
             }
         }
+        for (int what = 2; what >= 0; what--) {
+            check.due("free(0, " + what + "), behind a great one", x.free(0, what), 0);
+        }
     }
 
     private static void freedPays() {
@@ -564,16 +574,17 @@ public final class EstatesTest {
         // 2 owes 105: the second, third, first one need 40 + 65 + 5; the third, first, second 105 + 5 + 0
         check.due("a ring, begun where it is least", x.free(1000, 2), 110);
         check.due("not for a penny less", x.free(109, 0), 2);
-        DebtorsHouse y = Check.persons(0, 100, 0);
+        DebtorsHouse y = Check.persons(0, 60, 0);
         y.debt(0, 1, 50, 0, 0, 0);
         y.debt(1, 2, 120, 0, 0, 0);
         y.hold(1, 0);
         y.hold(2, 1);
-        check.due("50 for the first, nothing for the second", y.free(1000, 2), 50);
-        check.due("30 more than it needs are not in the purse", y.free(50, 0), 2);
-        check.due("the second alone for 20", y.free(49, 1), 2);
+        check.due("50 for the first, 10 for the second", y.free(1000, 2), 60);
+        check.due("one too few for both", y.free(59, 1), 1);
         y.debt(0, 1, 20, 0, 0, 0);
         check.due("two debts of the first to the second", y.free(1000, 2), 70);
+        check.due("10 more than it needs are not in the purse", y.free(69, 0), 1);
+        check.due("the second alone for 60", y.free(69, 1), 2);
     }
 
     private static void freedMost() {
@@ -674,5 +685,14 @@ public final class EstatesTest {
         check.due("what is due", x.tell(0, 11), 3601);
         check.due("reckoned anew", x.about(0, 9), 1);
         check.due("once more as before", x.free(1000000, 2), 3605);
+        DebtorsHouse y = Check.persons(0, 0, 0, 0, 0, 0, 0, 0, 0);
+        for (int i = 0; i < 8; i++) {
+            y.debt(i, (i + 1) % 8, i == 7 ? 5 : 20, 0, 0, 0);
+            y.hold((i + 1) % 8, i);
+        }
+        for (int i = 0; i < 5; i++) {
+            check.due("5 for the last, 15 for the first, time " + i, y.free(1000, 2), 20);
+            check.due("seven without the last, time " + i, y.free(19, 0), 1);
+        }
     }
 }

@@ -221,6 +221,14 @@ public final class HeldTest {
         x.surrender(0);
         check.due("surrendered", x.tell(0, 10), 0);
         check.due("held on, after all", x.tell(0, 2), 1);
+        DebtorsHouse y = Check.persons(0, 9, 9);
+        y.debt(1, 0, 9, 0, 0, 0);
+        y.debt(2, 0, 9, 0, 0, 0);
+        y.hold(0, 1);
+        y.hold(0, 2);
+        y.pay(0, 9);
+        check.due("by the first person, not any more", y.tell(1, 10), 0);
+        check.due("another one by the first person", y.tell(2, 10), 1);
     }
 
     private static void leave() {

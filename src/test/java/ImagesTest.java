@@ -14,6 +14,10 @@ public final class ImagesTest {
         againRefused();
         allIsInAnImage();
         tapeFaultAndRow();
+        fullTape();
+        eachDeed();
+        fourActs();
+        partedAgain();
         otherHouseInTheSamePlaces();
         placesAreNew();
         upToTheLastCall();
@@ -236,6 +240,112 @@ public final class ImagesTest {
         check.due("no place", y.fault(1), -1);
         check.due("an empty tape", y.end(1), -1);
         check.due("no bytes come back", y.feed(0, 0, 0, 0, 0), 20);
+    }
+
+    private static void fullTape() {
+        check.says("Promise 38", "Image k (0 .. 2) is all that is told (tape, FAULT, the row at hand, too), as it is now: true;");
+        DebtorsHouse x = Check.persons(0);
+        Check.feedText(x, 0, "keep:8;" + " ".repeat(585) + "entry:9;");
+        x.image(0);
+        x.end(0);
+        Check.feedText(x, 0, "!".repeat(600));
+        x.again(0);
+        check.due("600 bytes", x.end(600), 600);
+        check.due("from the first to the last", x.act(0), 0);
+        check.due("the first", x.tells(0, 7, 0), 8);
+        check.due("the last", x.tells(0, 1, 0), 9);
+    }
+
+    /** Deeds that change each thing that is told, one by one: undone by again(0), done once more by again(1). */
+    private static void eachDeed() {
+        check.says("Promise 39", "All that is as image k has it: true;");
+        String[][] deeds = {{"person 7 7"}, {"debt 2 3 9 3 7 1"}, {"costs 0 7"}, {"pay 0 7"}, {"pay 2 40"}, {"net"},
+            {"debt 2 3 5 0 0 0", "debt 3 2 5 0 0 0", "surrender 1", "ring"}, {"hold 3 2"}, {"tire 1 0"}, {"tire 1 0", "leave 0"},
+            {"room 0 2"}, {"walk 0 true"}, {"walk 0 true", "hour", "hour"}, {"walk 0 true", "day"}, {"hour"}, {"day"}, {"alms 5"},
+            {"least 1 0 1"}, {"compose 0 400"}, {"buy 1 3 9"}, {"surrender 0"}, {"surrender 2", "found 2 7"}, {"surrender 1"},
+            {"book 1 -3"}, {"book 1 3"}, {"feed 1 2 3 4 5", "act 0"}, {"end 0", "act 3"}, {"end 0", "act 3", "act 0"}};
+        for (String[] deed : deeds) {
+            String name = String.join(", ", deed);
+            DebtorsHouse twin = deedless();
+            String before = Seen.of(twin);
+            Seen.of(twin, deed);
+            String after = Seen.of(twin);
+            check.due(name + " is seen", before.equals(after), false);
+            DebtorsHouse x = deedless();
+            x.image(0);
+            Seen.of(x, deed);
+            x.image(1);
+            x.again(0);
+            check.same("again, without " + name, Seen.of(x), before);
+            x.again(1);
+            check.same("again, with " + name, Seen.of(x), after);
+        }
+    }
+
+    private static DebtorsHouse deedless() {
+        DebtorsHouse x = Check.persons(1000, 500, 50, 60);
+        Check.act(x, "walk if hour=0:yes;entry:1;daily:2;", 0);
+        x.day();
+        x.debt(0, 1, 1800, 1, 200, 0);
+        x.debt(1, 0, 90, 0, 100, 0);
+        x.debt(2, 3, 40, 0, 0, 0);
+        x.debt(2, 3, 40, 0, 0, 0);
+        x.least(1, 0, 400);
+        x.hold(1, 0);
+        x.day();
+        x.ring();
+        x.feed(0x656e7472, 0x793a393b, 0x20202020, 0x20202020, 0x20202020);
+        return x;
+    }
+
+    private static void fourActs() {
+        check.says("Promise 39", "All that is as image k has it: true;");
+        DebtorsHouse x = Check.persons(0);
+        x.image(0);
+        for (int n = 1; n <= 2; n++) {
+            x.again(0);
+            for (int a = 0; a < 4; a++) {
+                Check.act(x, "entry:" + (10 * n + a) + ";", a + n);
+            }
+            x.image(n);
+        }
+        for (int n = 1; n <= 2; n++) {
+            x.again(n);
+            for (int a = 0; a < 4; a++) {
+                check.due("act " + a + " of house " + n, x.tells(0, 1, a), 10 * n + a);
+                check.due("good from its day on", x.good(a + n, 0), a);
+            }
+            check.due("none ahead of the first", x.good(n - 1, 0), -1);
+        }
+    }
+
+    private static void partedAgain() {
+        check.says("Promise 39", "All that is as image k has it: true;");
+        DebtorsHouse x = Check.persons(5, 0, 0);
+        x.debt(0, 1, 3, 0, 0, 0);
+        x.debt(0, 2, 3, 0, 0, 0);
+        x.debt(0, 2, 3, 0, 0, 0);
+        x.image(0);
+        for (int d = 3; d < 40; d++) {
+            x.debt(0, 1, 200 - d, 0, 0, 0);
+        }
+        x.surrender(0);
+        x.found(0, 7);
+        x.image(1);
+        x.again(0);
+        check.due("5 among three", x.surrender(0), 5);
+        check.due("by the greatest rests", x.tell(1, 0), 2);
+        check.due("of the least debts", x.about(0, 13) * 100 + x.about(1, 13) * 10 + x.about(2, 13), 112);
+        check.due("2 found among three lacks", x.found(0, 2), 2);
+        check.due("by the greatest rest", x.about(0, 13) * 100 + x.about(1, 13) * 10 + x.about(2, 13), 11);
+        x.again(0);
+        x.surrender(0);
+        x.image(0);
+        x.again(1);
+        x.found(0, 7);
+        x.again(0);
+        check.due("2 found, once more", x.found(0, 2), 2);
+        check.due("parted as before", x.about(0, 13) * 100 + x.about(1, 13) * 10 + x.about(2, 13), 11);
     }
 
     /** Two houses that differ in all that is told, one after the other in one object. */

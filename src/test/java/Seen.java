@@ -36,6 +36,12 @@ final class Seen {
         }
         seen.add("fault 0");
         seen.add("fault 1");
+        int acts = persons > 0 ? x.count(3) : 0;
+        for (int a = 0; a < acts; a++) {
+            for (int topic = 0; topic <= 8; topic++) {
+                seen.add("tells 0 " + topic + " " + a);
+            }
+        }
         seen.add("turn");
         seen.add("good 9999 9999");
         return seen.text.toString();

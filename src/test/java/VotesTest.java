@@ -391,7 +391,17 @@ public final class VotesTest {
         y.debt(0, 1, 100, 0, 0, 0);
         y.least(1, 0, 0);
         check.due("one coin too few", y.compose(0, 10), -1);
+        Check.act(y, "number:0;worth:0;", 0);
+        for (int r : new int[] {-1, 1001, LOW, HIGH}) {
+            check.due("r " + r + " where nobody need sign", y.compose(0, r), -1);
+        }
         check.due("nothing to pay without coins", y.compose(0, 9), 0);
+        DebtorsHouse z = Check.persons(500, 0);
+        z.debt(0, 1, 50, 0, 0, 0);
+        for (int r : new int[] {1001, 2000, HIGH}) {
+            check.due("r " + r + ", with coins enough", z.compose(0, r), -1);
+        }
+        check.due("coins as they were", z.tell(0, 0), 500);
     }
 
     private static void composeOfMany() {
@@ -697,6 +707,14 @@ public final class VotesTest {
         Check.act(x, "buyer:no;worth:0;number:67;", 0);
         check.due("by number, 2 must be out: both of its own", x.swing(0, 3, 0, 1), 10);
         check.due("for 101", x.swing(0, 3, 0, 0), 101);
+        DebtorsHouse y = Check.persons(0, 0, 0, 0, 0);
+        Check.act(y, "buyer:no;worth:75;number:no;", 0);
+        for (int creditor : new int[] {2, 2, 4}) {
+            y.debt(0, creditor, 100, 0, 0, 0);
+        }
+        y.buy(0, 1, 0);
+        y.least(4, 0, 0);
+        check.due("what was bought need not be bought once more", y.swing(0, 3, 0, 1), 2);
     }
 
     private static void swingDoesNothing() {
